@@ -195,8 +195,9 @@ public final class ProvenRecord {
     }
 
     public int head(int record, int size) {
-        int wrong = wrongGrowth(record, 0, size);
-        return wrong != FINE ? refuse(wrong) : answer(world.headOf(world.logAt(record), size));
+        Log log = world.logAt(record);
+        int wrong = wrongGrowth(log, 0, size);
+        return wrong != FINE ? refuse(wrong) : answer(world.headOf(log, size));
     }
 
     public int join(int first, int second) {
@@ -379,22 +380,24 @@ public final class ProvenRecord {
     }
 
     public int include(int record, int i, int n) {
-        int wrong = wrongInclusion(record, i, n);
+        Log log = world.logAt(record);
+        int wrong = wrongInclusion(log, i, n);
         if (wrong != FINE) {
             return refuse(wrong);
         }
         way.toThing(i, n);
-        world.marksAlong(way, world.logAt(record), pad);
+        world.marksAlong(way, log, pad);
         return answer(pad.count);
     }
 
     public int grow(int record, int m, int n) {
-        int wrong = wrongGrowth(record, m, n);
+        Log log = world.logAt(record);
+        int wrong = wrongGrowth(log, m, n);
         if (wrong != FINE) {
             return refuse(wrong);
         }
         way.toGrowth(m, n);
-        world.marksAlong(way, world.logAt(record), pad);
+        world.marksAlong(way, log, pad);
         return answer(pad.count);
     }
 
@@ -415,11 +418,12 @@ public final class ProvenRecord {
     }
 
     public int peaks(int record, int n) {
-        int wrong = wrongGrowth(record, 0, n);
+        Log log = world.logAt(record);
+        int wrong = wrongGrowth(log, 0, n);
         if (wrong != FINE) {
             return refuse(wrong);
         }
-        world.peaksOf(world.logAt(record), n, pad);
+        world.peaksOf(log, n, pad);
         return answer(pad.count);
     }
 
@@ -509,7 +513,8 @@ public final class ProvenRecord {
         if (k < 0 || what < 0 || what > 2) {
             return refuse(WRONG_NUMBER);
         }
-        int wrong = wrongGrowth(record, 0, n);
+        Log log = world.logAt(record);
+        int wrong = wrongGrowth(log, 0, n);
         if (wrong != FINE) {
             return refuse(wrong);
         }
@@ -520,7 +525,7 @@ public final class ProvenRecord {
         if (what == 0) {
             return answer(way.firstAt(0));
         }
-        return answer(what == 1 ? way.manyAt(0) : world.treeMark(world.logAt(record), way.firstAt(0), way.manyAt(0)));
+        return answer(what == 1 ? way.manyAt(0) : world.treeMark(log, way.firstAt(0), way.manyAt(0)));
     }
 
     public int proves(int i, int j) {
@@ -587,11 +592,11 @@ public final class ProvenRecord {
         if (what < 0 || what > 1) {
             return refuse(WRONG_NUMBER);
         }
-        int wrong = wrongInclusion(record, i, n);
-        if (wrong != FINE) {
+        Log log = world.logAt(record);
+        int wrong = wrongInclusion(log, i, n);
+        if (wrong != FINE || log == null) {
             return refuse(wrong);
         }
-        Log log = world.logAt(record);
         way.toThing(i, n);
         world.marksAlong(way, log, proof);
         Roots search = preparedRoots();
@@ -606,11 +611,11 @@ public final class ProvenRecord {
         if (what < 0 || what > 4 || !isMark(mark)) {
             return refuse(WRONG_NUMBER);
         }
-        int wrong = wrongInclusion(record, i, n);
-        if (wrong != FINE) {
+        Log log = world.logAt(record);
+        int wrong = wrongInclusion(log, i, n);
+        if (wrong != FINE || log == null) {
             return refuse(wrong);
         }
-        Log log = world.logAt(record);
         way.toThing(i, n);
         if (way.whyInclusion(world.modulus, pad, mark, world.headOf(log, n)) != 0) {
             return refuse(NOT_THERE);
@@ -738,11 +743,11 @@ public final class ProvenRecord {
     }
 
     public int tell(int record, int i, int n) {
-        int wrong = wrongInclusion(record, i, n);
-        if (wrong != FINE) {
+        Log log = world.logAt(record);
+        int wrong = wrongInclusion(log, i, n);
+        if (wrong != FINE || log == null) {
             return refuse(wrong);
         }
-        Log log = world.logAt(record);
         way.toThing(i, n);
         world.marksAlong(way, log, proof);
         toldCount = 0;
@@ -759,11 +764,11 @@ public final class ProvenRecord {
     }
 
     public int tellGrowth(int record, int m, int n) {
-        int wrong = wrongGrowth(record, m, n);
+        Log log = world.logAt(record);
+        int wrong = wrongGrowth(log, m, n);
         if (wrong != FINE) {
             return refuse(wrong);
         }
-        Log log = world.logAt(record);
         way.toGrowth(m, n);
         world.marksAlong(way, log, proof);
         toldCount = 0;
@@ -895,22 +900,20 @@ public final class ProvenRecord {
         return Integer.highestOneBit(set) < 1L << Math.max(0, Math.min(n, SET_BITS));
     }
 
-    private int wrongInclusion(int record, int i, int n) {
+    private static int wrongInclusion(Log log, int i, int n) {
         if (i < 0 || n < 0) {
             return WRONG_NUMBER;
         }
-        Log log = world.logAt(record);
         if (log == null) {
             return NO_SUCH;
         }
         return n > log.length || i >= n ? NOT_THERE : FINE;
     }
 
-    private int wrongGrowth(int record, int m, int n) {
+    private static int wrongGrowth(Log log, int m, int n) {
         if (m < 0 || m > n) {
             return WRONG_NUMBER;
         }
-        Log log = world.logAt(record);
         if (log == null) {
             return NO_SUCH;
         }
@@ -2022,7 +2025,11 @@ public final class ProvenRecord {
             modulus = byModulus;
             whys.shorten(0);
             for (int k = 0; k < MOST_BYTES && !isAtEnd(); k++) {
-                if (!readStatement(whys)) {
+                boolean inclusion = scanner.spells("in");
+                if (!inclusion && !scanner.spells("grow")) {
+                    return stray();
+                }
+                if (!hasRoom(whys.count, MOST_STATEMENTS) || !(inclusion ? readInclusion(whys) : readGrowth(whys))) {
                     return false;
                 }
                 scanner.advance();
@@ -2054,17 +2061,6 @@ public final class ProvenRecord {
             }
             watcher = number;
             return readNumber(0, log.length) && readSign();
-        }
-
-        private boolean readStatement(Row whys) {
-            boolean inclusion = scanner.spells("in");
-            if (!inclusion && !scanner.spells("grow")) {
-                return stray();
-            }
-            if (!hasRoom(whys.count, MOST_STATEMENTS)) {
-                return false;
-            }
-            return inclusion ? readInclusion(whys) : readGrowth(whys);
         }
 
         private boolean readInclusion(Row whys) {

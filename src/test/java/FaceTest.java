@@ -61,8 +61,13 @@ public final class FaceTest {
         }
         must(due.size() == 59, "the document has 59 calls, and not " + due.size());
         must(got.equals(due), "the calls are " + due + ", and not " + got);
+        for (Class<?> inside : ProvenRecord.class.getDeclaredClasses()) {
+            for (Method m : inside.getDeclaredMethods()) {
+                others.add(m.getName());
+            }
+        }
         for (String name : due) {
-            must(!others.contains(name.split(" ")[0]), "no private method is named " + name);
+            must(!others.contains(name.split(" ")[0]), "no other method is named " + name);
         }
         must(Modifier.isFinal(ProvenRecord.class.getModifiers()), "the class is final");
         must(ProvenRecord.class.getConstructors().length == 1, "one public constructor");

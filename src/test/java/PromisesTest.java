@@ -293,6 +293,8 @@ public final class PromisesTest {
         String row = "in 0 of 1 mark 1 head 1 by" + " 7".repeat(64) + ";";
         Due.answered("64 MARKS", y, y.hear(Due.feed(y, row)), 0);
         Due.due("too many", y.heard(0), 2);
+        Due.answered("M less 1", y, y.hear(Due.feed(y, "in 0 of 1 mark 100 head 100 by; grow 0 mark 0 to 1 head 100 by;")), 2);
+        Due.answered("M less 1", y, y.hear(Due.feed(y, "in 0 of 2 mark 1 head 100 by 100;")), 0);
         Due.answered("as many as 99999 things", y, y.hear(Due.feed(y, "in 99998 of 99999 mark 1 head 1 by;")), 0);
         Due.due("too few", y.heard(0), 1);
 
@@ -1162,6 +1164,11 @@ public final class PromisesTest {
         Due.answered("how many", x, x.blame(0, 2), 5);
         x.freeze(0);
         Due.answered("SOUND, but not less", x, x.blame(0, 1), 0);
+        ProvenRecord y = Due.loaded("add a;freeze;add b;freeze;");
+        y.spoil(0, 1, 0, 26);
+        y.freeze(0);
+        Due.answered("one size is SOUND and not", y, y.blame(0, 0), 2);
+        Due.answered("less than that", y, y.blame(0, 1), 1);
         Due.refused("what", x, x.blame(9, 3), 1);
         Due.refused("what", x, x.blame(0, -1), 1);
         Due.refused("none", x, x.blame(2, 0), 2);
@@ -1186,6 +1193,10 @@ public final class PromisesTest {
         Due.refused("no RECORD", x, x.weak(1, 0, 2, 0), 2);
         Due.refused("not so many", x, x.weak(0, 0, 6, 0), 5);
         Due.refused("none of these", x, x.weak(0, 2, 2, 0), 5);
+        // d is 15, then 15 * 15 + 45 + 9 + 7 = 286, less 202: di is 84, of which 17 more is 0, as is 98 * 101
+        ProvenRecord y = Due.loaded("mod 101;add di;add b;");
+        Due.answered("a root of 0", y, y.weak(0, 0, 2, 0), 1);
+        Due.answered("a root of 0", y, y.weak(0, 0, 2, 1), 81);
         weakAll(x, 101);
         weakAll(Due.loaded("mod 59049;add a;add b;add c;add d;add e;"), 59049);
         weakAll(Due.loaded("mod 32768;add a;add b;add c;add d;add e;"), 32768);
