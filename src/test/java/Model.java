@@ -147,7 +147,7 @@ final class Model {
     }
 
     private static boolean touches(int set, long from, long n) {
-        for (int b = 0; b < 30; b++) {
+        for (int b = 0; b < 31; b++) {
             if ((set >> b & 1) == 1 && b >= from && b < from + n) {
                 return true;
             }
@@ -310,7 +310,7 @@ final class Model {
     }
 
     private static boolean wrongSet(int set) {
-        return set <= 0 || set >= 1 << 30;
+        return set <= 0;
     }
 
     // ---- texts

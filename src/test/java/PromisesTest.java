@@ -834,11 +834,19 @@ public final class PromisesTest {
         Due.refused("none of these", x, x.bundle(0, 3 << 2, 3), 5);
         Due.refused("none of these", x, x.bundle(0, 1 << 29, 5), 5);
         Due.refused("of none", x, x.bundle(0, 1, 0), 5);
-        Due.refused("a set is of 0 to 29", x, x.bundle(0, 1 << 30, 5), 1);
+        Due.refused("30 is none of these", x, x.bundle(0, 1 << 30, 5), 5);
+        Due.refused("30 is none of these", x, x.bundle(0, 1 << 30 | 1, 5), 5);
+        Due.refused("no RECORD, 30", x, x.bundle(1, 1 << 30, 5), 2);
         Due.pad("nothing else", x, 9);
+        ProvenRecord none = new ProvenRecord();
+        Due.refused("of none, 30 too", none, none.bundle(0, 1372976698, 0), 5);
+        Due.refused("of none, most", none, none.bundle(0, MOST, 0), 5);
         ProvenRecord y = Due.loaded("add;".repeat(48));
         Due.answered("29 of 48", y, y.bundle(0, 1 << 29, 48), 6);
         Due.answered("every other one", y, y.bundle(0, 0x15555555, 48), 15 + 2);
+        Due.refused("30 of 30", y, y.bundle(0, 1 << 30 | 1, 30), 5);
+        Due.answered("30 of 31", y, y.bundle(0, 1 << 30, 31), 4);
+        Due.answered("0 to 30 of 31", y, y.bundle(0, MOST, 31), 0);
     }
 
     // 30
@@ -963,6 +971,9 @@ public final class PromisesTest {
         Due.refused("below 0", x, x.bundled(1, -1, 0), 1);
         Due.refused("not below n", x, x.bundled(1, 0, 0), 1);
         Due.refused("not below n", x, x.bundled(33, 5, 0), 1);
+        Due.refused("30 is not below n", x, x.bundled(1 << 30, 30, 0), 1);
+        Due.refused("30 is not below n", x, x.bundled(1 << 30 | 1, 1, 0), 1);
+        Due.answered("too few for 30 of 31", x, x.bundled(1 << 30, 31, 0), 1);
         Due.refused("no MARK", x, x.bundled(1, 1, 101), 1);
         Due.refused("no MARK", x, x.bundled(1, 1, -1), 1);
     }
@@ -1527,7 +1538,8 @@ public final class PromisesTest {
         Due.refused("not below n", x, x.saves(1 << 5, 5), 1);
         Due.refused("not below n", x, x.saves(1, 0), 1);
         Due.refused("not below n", x, x.saves(1, LEAST), 1);
-        Due.refused("a set is of 0 to 29", x, x.saves(1 << 30, MOST), 1);
+        Due.refused("30 is not below n", x, x.saves(1 << 30, 30), 1);
+        Due.answered("0 and 30 of 31: 5 and 4, less 7", x, x.saves(1 << 30 | 1, 31), 2);
     }
 
     // 60

@@ -166,7 +166,7 @@ public final class RandomRunsTest {
             case 'q':
                 return random.nextInt(random.nextInt(6) == 0 ? 12 : 6) - (random.nextInt(9) == 0 ? 1 : 0);
             case 's':
-                return random.nextInt(1 << 1 + random.nextInt(30));
+                return random.nextInt() >>> 1 + random.nextInt(31);
             case 'l':
                 return random.nextInt(28);
             default:
@@ -437,7 +437,7 @@ public final class RandomRunsTest {
             return;
         }
         int n = 1 + random.nextInt(all);
-        int set = random.nextInt() & (1 << Math.min(30, n)) - 1 & (random.nextBoolean() ? random.nextInt() : -1);
+        int set = random.nextInt() & (int) ((1L << Math.min(31, n)) - 1) & (random.nextBoolean() ? random.nextInt() : -1);
         int head = call("head", 0, n);
         int others = call("bundle", 0, set, n);
         call("saves", set, n);
