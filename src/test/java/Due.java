@@ -26,6 +26,23 @@ final class Due {
         due(call + ", status()", x.status(), 0);
     }
 
+    static int wrong() {
+        return wrong;
+    }
+
+    static int seen() {
+        return seen;
+    }
+
+    /** MARK of two MARKS, reckoned here. */
+    static int join(int m, int first, int second) {
+        return mix(m, mix(m, 2, first), second);
+    }
+
+    static int mix(int m, int h, int x) {
+        return (int) (((long) h * h + 3L * h + x + 7) % m);
+    }
+
     static void end() {
         System.out.println(seen + " answers, " + wrong + " of them not as due");
         if (wrong != 0) {

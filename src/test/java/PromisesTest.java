@@ -1208,29 +1208,6 @@ public final class PromisesTest {
         ProvenRecord y = Due.loaded("mod 101;add di;add b;");
         Due.answered("a root of 0", y, y.weak(0, 0, 2, 0), 1);
         Due.answered("a root of 0", y, y.weak(0, 0, 2, 1), 81);
-        weakAll(x, 101);
-        weakAll(Due.loaded("mod 59049;add a;add b;add c;add d;add e;"), 59049);
-        weakAll(Due.loaded("mod 32768;add a;add b;add c;add d;add e;"), 32768);
-        weakAll(Due.loaded("mod 65521;add a;add b;add c;add d;add e;"), 65521);
-    }
-
-    /** WEAK MARKS are just those that the VERIFIER takes. */
-    private static void weakAll(ProvenRecord x, int m) {
-        for (int i = 0; i < 5; i++) {
-            int found = 0;
-            int least = -1;
-            x.include(0, i, 5);
-            int own = x.entry(0, i, 1);
-            int head = x.head(0, 5);
-            for (int mark = m - 1; mark >= 0; mark--) {
-                if (mark != own && x.checks(mark, i, 5, head) == 0) {
-                    found++;
-                    least = mark;
-                }
-            }
-            Due.due("weak by " + m + " of " + i, x.weak(0, i, 5, 0), found);
-            Due.due("weak by " + m + " of " + i, x.weak(0, i, 5, 1), least);
-        }
     }
 
     // 46
@@ -1289,31 +1266,45 @@ public final class PromisesTest {
         Due.refused("below 0", x, x.forge(12, 0, 2, 39, -1), 1);
         Due.refused("no MARK", x, x.forge(101, 0, 2, 39, 0), 1);
         Due.refused("no MARK", x, x.forge(12, 0, 2, -1, 0), 1);
-        forgeAll(Due.loaded(FIVE), 101, 12, 19);
-        forgeAll(Due.loaded("mod 169;"), 169, 5, 6);
-        forgeAll(Due.loaded("mod 128;"), 128, 100000, 2000000000);
+        forgeAll(101, 12, 19);
+        forgeAll(169, 5, 6);
+        forgeAll(128, 100000, 2000000000);
     }
 
-    /** Each place of a PAD: the least that the VERIFIER would take there, or none. */
-    private static void forgeAll(ProvenRecord x, int m, int i, int n) {
-        x.cut(0);
-        for (int k = 0; k < x.steps(i, n); k++) {
-            x.push((7 * k + 1) % m);
+    /** Each place of a PAD: the least that would be TAKEN there, or none. */
+    private static void forgeAll(int m, int i, int n) {
+        ProvenRecord asked = Due.loaded("mod " + m + ";");
+        int[] row = new int[asked.steps(i, n)];
+        boolean[] ahead = new boolean[row.length];
+        for (int k = 0; k < row.length; k++) {
+            row[k] = (7 * k + 1) % m;
+            ahead[k] = asked.span(i, n, k, 0) < i;
         }
         for (int head = 0; head < m; head += 3) {
-            for (int k = 0; k < x.many(2); k++) {
-                int was = x.pad(k);
-                int least = -1;
-                for (int mark = m - 1; mark >= 0; mark--) {
-                    x.poke(k, mark);
-                    least = x.checks(5, i, n, head) == 0 ? mark : least;
-                }
-                x.poke(k, was);
+            ProvenRecord x = Due.loaded("mod " + m + ";");
+            Due.setPad(x, row);
+            for (int k = 0; k < row.length; k++) {
+                int least = leastForged(m, row, ahead, head, k);
                 int got = x.forge(5, i, n, head, k);
                 Due.due("forge " + head + " at " + k, got, least);
                 Due.due("forge " + head + " at " + k + ", status()", x.status(), least < 0 ? 5 : 0);
             }
         }
+    }
+
+    private static int leastForged(int m, int[] row, boolean[] ahead, int head, int k) {
+        int[] other = row.clone();
+        for (int mark = 0; mark < m; mark++) {
+            other[k] = mark;
+            int folded = 5;
+            for (int step = 0; step < other.length; step++) {
+                folded = ahead[step] ? Due.join(m, other[step], folded) : Due.join(m, folded, other[step]);
+            }
+            if (folded == head) {
+                return mark;
+            }
+        }
+        return -1;
     }
 
     // 48
