@@ -427,6 +427,15 @@ public final class EdgesOfProofsTest {
             x.push(x.head(0, 16));
             Due.answered("48", x, x.bundled((1 << 30) - 1, 48, x.head(0, 48)), 0);
         });
+        Edge.of("34: by M 65,521: MARKS up to M less 1", () -> {
+            ProvenRecord x = Edge.fresh();
+            Due.setPad(x, 65503, 65515);
+            Due.answered("both of two", x, x.bundled(3, 2, 65520), 0);
+            Due.answered("the first of two", x, x.bundled(1, 2, 65520), 0);
+            Due.setPad(x, 65516, 65503);
+            Due.answered("the second of two", x, x.bundled(2, 2, 0), 0);
+            Due.refused("M", x, x.bundled(2, 2, 65521), 1);
+        });
         Edge.of("34: n as great as may be: 1 MARK of the set, 31 others", () -> {
             ProvenRecord x = padded(31);
             int head = 1;

@@ -58,6 +58,14 @@ public final class EdgesOfTextsTest {
         Due.due("the tape is empty", x.feed(0, 0, 0, 0, 0), 20);
     }
 
+    private static void otherLetter(String word, int k, String rest, Read read) {
+        ProvenRecord x = Edge.fresh();
+        String other = word.substring(0, k) + "q" + word.substring(k + 1) + rest;
+        Due.refused(other, x, read.first(x, Due.feed(x, other)), 9);
+        Due.due(other + ", fault(0)", x.fault(0), 2);
+        Due.due(other + ", fault(1)", x.fault(1), 0);
+    }
+
     /** A TEXT without a FAULT. */
     private static void fine(String sentence, String text) {
         Edge.of(sentence, () -> {
@@ -496,6 +504,18 @@ public final class EdgesOfTextsTest {
         faulty("a WORD that begins no LINE: one letter more", "addd;", 2, 0);
         faulty("a WORD that begins no LINE: of PROOFS", "in 0 of 1 mark 1 head 1 by;", 2, 0);
         faulty("mod without NUMBER", "mod;", 2, 3);
+        Edge.of("a WORD that begins no LINE, no STATEMENT: each letter of each is another one", () -> {
+            for (String word : new String[] {"mod", "add", "to", "fork", "freeze", "show"}) {
+                for (int k = 0; k < word.length(); k++) {
+                    otherLetter(word, k, " 0;", ProvenRecord::load);
+                }
+            }
+            for (String word : new String[] {"in", "grow"}) {
+                for (int k = 0; k < word.length(); k++) {
+                    otherLetter(word, k, " 0;", ProvenRecord::hear);
+                }
+            }
+        });
         faulty("mod without ;", "mod 101 add;", 2, 8);
         Edge.of("all of the RECORD AT HAND, 0 at first, another one by to, a new one by fork", () -> {
             ProvenRecord x = Edge.fresh();
@@ -562,6 +582,14 @@ public final class EdgesOfTextsTest {
         unheard("a WORD that begins no STATEMENT", "inn 0 of 1 mark 1 head 1 by;", 2, 0);
         unheard("a WORD that begins no STATEMENT: of a TEXT", "add;", 2, 0);
         unheard("mod is of a TEXT", "mod 101;", 2, 0);
+        unheard("another WORD than of", "in 0 uf 1 mark 1 head 1 by;", 2, 5);
+        unheard("another WORD than mark", "in 0 of 1 bark 1 head 1 by;", 2, 10);
+        unheard("another WORD than head", "in 0 of 1 mark 1 heat 1 by;", 2, 17);
+        unheard("another WORD than by", "in 0 of 1 mark 1 head 1 my;", 2, 24);
+        unheard("another WORD than mark, of grow", "grow 0 mart 0 to 1 head 1 by;", 2, 7);
+        unheard("another WORD than to", "grow 0 mark 0 do 1 head 1 by;", 2, 14);
+        unheard("another WORD than head, of grow", "grow 0 mark 0 to 1 dead 1 by;", 2, 19);
+        unheard("another WORD than by, of grow", "grow 0 mark 0 to 1 head 1 be;", 2, 26);
         unheard("a ; too many", TAKEN + ";", 2, 27);
     }
 
@@ -663,6 +691,17 @@ public final class EdgesOfTextsTest {
             }
             Due.refused("RECORD 1", x, x.size(1), 2);
             Due.refused("FROZEN", x, x.frozen(0, 0), 5);
+        });
+        Edge.of("load() makes all anew: each time, and behind a TEXT with a FAULT at its end", () -> {
+            String text = "mod 101;add a;show 0 1;freeze;fork 0;add b;show 0 1;show 3 1;freeze;fork 1;";
+            ProvenRecord x = Due.loaded(text);
+            x.load(Due.feed(x, text));
+            Due.refused("a FAULT at the end", x, x.load(Due.feed(x, text + "!")), 9);
+            List<String> due = Look.butTapeAndFault(Edge.fresh());
+            for (int round = 0; round < 3; round++) {
+                Due.answered("load", x, x.load(0), 1);
+                Edge.same("round " + round, Look.butTapeAndFault(x), due);
+            }
         });
         Edge.of("load() makes all anew: from the most there may be, to as much again", () -> {
             ProvenRecord x = Edge.full();

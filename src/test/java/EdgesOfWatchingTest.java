@@ -269,6 +269,27 @@ public final class EdgesOfWatchingTest {
         Edge.gives("45: the least: 12 and 52 are 64", Edge::rich, 52, x -> x.weak(0, 0, 2, 1));
         Edge.gives("45: the least: 0", Edge.loaded("mod 101;add cu;add b;"), 0, x -> x.weak(0, 0, 2, 1));
         Edge.gives("45: the least: M less 1", Edge.loaded("mod 101;add cv;add b;"), 100, x -> x.weak(0, 0, 2, 1));
+        // a first MARK x is 17 and x by M when it is mixed: 84 is 0, 83 is M less 1
+        Edge.gives("45: the least: one that is mixed to 0", Edge.loaded("mod 101;add df;add b;"), 84, x -> x.weak(0, 0, 2, 1));
+        Edge.gives("45: of one that is mixed to 0", Edge.loaded("mod 101;add di;add b;"), 81, x -> x.weak(0, 0, 2, 1));
+        Edge.gives("45: the least: one that is mixed to M less 1", Edge.loaded("mod 101;add dg;add b;"), 83,
+            x -> x.weak(0, 0, 2, 1));
+        Edge.gives("45: of one that is mixed to M less 1", Edge.loaded("mod 101;add dh;add b;"), 82, x -> x.weak(0, 0, 2, 1));
+        Edge.gives("45: how many: one, where it is mixed to 0", Edge.loaded("mod 101;add di;add b;"), 1, x -> x.weak(0, 0, 2, 0));
+        Edge.gives("45: how many: one, where it is mixed to M less 1", Edge.loaded("mod 101;add dh;add b;"), 1,
+            x -> x.weak(0, 0, 2, 0));
+        Edge.of("45: what was forged ahead, by what M there was ahead, is not seen in it", () -> {
+            ProvenRecord x = Edge.rich();
+            Due.setPad(x, 13, 66, 16);
+            x.forge(12, 0, 5, 89, 2);
+            Due.answered("0 of 2", x, x.weak(0, 0, 2, 1), 52);
+            x.forge(12, 0, 5, 89, 0);
+            Due.answered("0 of 2", x, x.weak(0, 0, 2, 0), 1);
+            x.hear(0);
+            x.load(Due.feed(x, "mod 103;add a;add b;"));
+            // by 103 two first MARKS join alike if together they are 66: -3 less 34
+            Due.answered("by another M", x, x.weak(0, 0, 2, 1), 54);
+        });
         Edge.of("45: all that would be TAKEN, by the least M and the greatest, by powers", () -> {
             for (int m : new int[] {101, 128, 32768, 59049, 65520, 65521}) {
                 ProvenRecord x = Due.loaded("mod " + m + ";add a;add b;add c;add d;add e;");
@@ -358,6 +379,15 @@ public final class EdgesOfWatchingTest {
                 Due.answered("clash " + what, x, x.clash(0, 0, 5, 52, what), due[what]);
             }
         });
+        Edge.of("46: the pair by the RECORD and the other one: both of both are unlike", () -> {
+            ProvenRecord x = Edge.rich();
+            // 14 with 89 is 39 as 12 with 13 is: 31 * 34 + 89 + 7 = 1150, less 1111
+            Due.setPad(x, 89, 66, 16);
+            int[] due = {0, 12, 13, 14, 89};
+            for (int what = 0; what < 5; what++) {
+                Due.answered("clash " + what, x, x.clash(0, 0, 5, 14, what), due[what]);
+            }
+        });
         Edge.of("46: the pair by its sides: the thing is the second one", () -> {
             ProvenRecord x = Edge.rich();
             // 12 and 52 are 64, so 52 with b is 39 as a with b is
@@ -430,6 +460,11 @@ public final class EdgesOfWatchingTest {
             Due.answered("the last", x, x.forge(12, 0, 5, 89, 2), 16);
             Due.refused("one behind", x, x.forge(12, 0, 5, 89, 3), 5);
             Due.pad("the PAD", x, 13, 66, 16);
+        });
+        Edge.of("47: what was WEAK ahead is not seen in it", () -> {
+            ProvenRecord x = forging();
+            x.weak(0, 0, 2, 0);
+            Due.answered("12, of the ENTRY that was not WEAK", x, x.forge(13, 1, 2, 39, 0), 12);
         });
         Edge.of("47: n as great as may be: the last of 31", () -> {
             ProvenRecord x = Edge.fresh();
@@ -592,6 +627,13 @@ public final class EdgesOfWatchingTest {
         Edge.gives("54: the first couple: 0 and 1", Edge.loaded(PARTED), 1, x -> x.split(1));
         Edge.gives("54: the first couple: 2 and 3, the last of all", Edge.loaded("add a;show 2 1;fork 0;add b;show 3 1;"), 23,
             x -> x.split(1));
+        Edge.of("54: couples are of two: one that no RECORD agrees with is none by itself", () -> {
+            ProvenRecord x = Due.loaded("add a;show 3 1;");
+            x.spoil(0, 0, 0, 2);
+            Due.answered("itself", x, x.agree(3, 3), 0);
+            Due.answered("0, 1, 2 with 3", x, x.split(0), 3);
+            Due.answered("the first", x, x.split(1), 3);
+        });
         Edge.gives("54: the first couple: 0 and 3", Edge.loaded("add a;show 0 1;fork 0;add b;show 3 1;"), 3, x -> x.split(1));
     }
 
