@@ -480,6 +480,7 @@ public final class EdgesOfTextsTest {
 
     private static void lines() {
         fine("an empty TEXT of blanks", " \n ");
+        fine("an empty TEXT of blanks, the most", " \n".repeat(450));
         fine("[mod NUMBER ;] once", "mod 101;");
         faulty("[mod NUMBER ;] twice", "mod 101;mod 101;", 2, 8);
         faulty("[mod NUMBER ;] behind a LINE", "to 0;mod 101;", 2, 5);
@@ -548,6 +549,7 @@ public final class EdgesOfTextsTest {
 
     private static void statements() {
         listened("no STATEMENT", 0, " \n ");
+        listened("no STATEMENT, blanks, the most", 0, " \n".repeat(450));
         listened("by {NUMBER}: none", 1, "in 0 of 1 mark 7 head 7 by;");
         listened("by {NUMBER}: one", 1, "in 0 of 2 mark 12 head 39 by 13;");
         listened("by {NUMBER}: 64, the most", 0, "in 0 of 1 mark 1 head 1 by" + " 7".repeat(64) + ";");

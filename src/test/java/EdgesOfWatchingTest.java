@@ -275,9 +275,12 @@ public final class EdgesOfWatchingTest {
         Edge.gives("45: the least: one that is mixed to M less 1", Edge.loaded("mod 101;add dg;add b;"), 83,
             x -> x.weak(0, 0, 2, 1));
         Edge.gives("45: of one that is mixed to M less 1", Edge.loaded("mod 101;add dh;add b;"), 82, x -> x.weak(0, 0, 2, 1));
-        Edge.gives("45: how many: one, where it is mixed to 0", Edge.loaded("mod 101;add di;add b;"), 1, x -> x.weak(0, 0, 2, 0));
-        Edge.gives("45: how many: one, where it is mixed to M less 1", Edge.loaded("mod 101;add dh;add b;"), 1,
-            x -> x.weak(0, 0, 2, 0));
+        Edge.of("45: how many: one, where it or the other one is mixed to 0, to M less 1", () -> {
+            for (String word : new String[] {"df", "dg", "dh", "di"}) {
+                ProvenRecord x = Due.loaded("mod 101;add " + word + ";add b;");
+                Due.answered(word, x, x.weak(0, 0, 2, 0), 1);
+            }
+        });
         Edge.of("45: what was forged ahead, by what M there was ahead, is not seen in it", () -> {
             ProvenRecord x = Edge.rich();
             Due.setPad(x, 13, 66, 16);
