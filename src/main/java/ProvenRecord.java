@@ -13,8 +13,7 @@ public final class ProvenRecord {
     private static final int MOST_THINGS_LISTED = 512;
     private static final int WATCHERS = 4;
     private static final int LETTERS = 26;
-    // The document speaks of 0 to 29; an int that is not below 0 has a bit for 30, too, which is judged as the others are.
-    private static final int SET_BITS = 31;
+    private static final int SET_THINGS = 30;
     private static final int LEAST_M = 101;
     private static final int GREATEST_M = 65521;
 
@@ -811,7 +810,7 @@ public final class ProvenRecord {
             return refuse(WRONG_NUMBER);
         }
         int alone = 0;
-        for (int i = 0; i < SET_BITS; i++) {
+        for (int i = 0; i < SET_THINGS; i++) {
             if (hasOneOf(set, i, 1)) {
                 way.toThing(i, n);
                 alone += way.count;
@@ -897,8 +896,9 @@ public final class ProvenRecord {
         return set > 0;
     }
 
+    // A set is of things 0 to 29: an int has a bit for 30, too, but that is none of the things, however many there are.
     private static boolean lieBelow(int set, int n) {
-        return Integer.highestOneBit(set) < 1L << Math.max(0, Math.min(n, SET_BITS));
+        return Integer.highestOneBit(set) < 1 << Math.max(0, Math.min(n, SET_THINGS));
     }
 
     private static int wrongInclusion(Log log, int i, int n) {
@@ -1026,11 +1026,11 @@ public final class ProvenRecord {
     }
 
     private static boolean hasOneOf(int set, int first, int many) {
-        if (first < 0 || first >= SET_BITS || many <= 0) {
+        if (first < 0 || first >= SET_THINGS || many <= 0) {
             return false;
         }
         int rest = set >>> first;
-        return (many >= SET_BITS ? rest : rest & ((1 << many) - 1)) != 0;
+        return (many >= SET_THINGS ? rest : rest & ((1 << many) - 1)) != 0;
     }
 
     /** A row of MARKS, at most 64: the PAD, a proof, PEAKS; also the WHYs of what was heard. */

@@ -195,9 +195,14 @@ public final class EdgesOfProofsTest {
         Edge.refused("29: (5: one of the set is none of these)", Edge::rich, 5, x -> x.bundle(0, 1 << 5, 5),
             x -> x.bundle(0, 1 | 1 << 5, 5), x -> x.bundle(0, 1, 0), x -> x.bundle(0, 2, 1), x -> x.bundle(0, 1 << 29, 5),
             x -> x.bundle(0, 1 << 30, 5), x -> x.bundle(0, MOST, 5));
+        Edge.refused("29: of ENTRIES 0 to 29: bit 30 is of none of these, however many there are", Edge::full, 5,
+            x -> x.bundle(0, 1 << 30, 30), x -> x.bundle(0, 1 << 30, 31), x -> x.bundle(0, 1 << 30, 32),
+            x -> x.bundle(0, 1 << 30, 48), x -> x.bundle(0, 1 << 30 | 1, 31), x -> x.bundle(0, MOST, 31),
+            x -> x.bundle(3, MOST, 48));
         Edge.refused("29: 1 ahead of 2 and 5", Edge::rich, 1, x -> x.bundle(2, 0, 5), x -> x.bundle(2, 1, -1),
             x -> x.bundle(0, LEAST, 6), x -> x.bundle(0, 0, 6));
-        Edge.refused("29: 2 ahead of 5", Edge::rich, 2, x -> x.bundle(2, 1, 6), x -> x.bundle(2, 1 << 5, 5));
+        Edge.refused("29: 2 ahead of 5", Edge::rich, 2, x -> x.bundle(2, 1, 6), x -> x.bundle(2, 1 << 5, 5),
+            x -> x.bundle(2, 1 << 30, 31));
         Edge.of("29: the first alone, the last alone, all", () -> {
             ProvenRecord x = Edge.rich();
             Due.answered("the first", x, x.bundle(0, 1, 5), 3);
@@ -214,6 +219,8 @@ public final class EdgesOfProofsTest {
             Due.answered("29 of 48", x, x.bundle(0, 1 << 29, 48), 6);
             Due.answered("29 of 30", x, x.bundle(0, 1 << 29, 30), 4);
             Due.refused("29 of 29", x, x.bundle(0, 1 << 29, 29), 5);
+            Due.answered("29 of 31", x, x.bundle(0, 1 << 29, 31), 5);
+            Due.answered("0 to 29 of 31: 30", x, x.bundle(0, (1 << 30) - 1, 31), 1);
             Due.answered("0 to 29 of 48: 30 and 31, the other 16", x, x.bundle(0, (1 << 30) - 1, 48), 2);
             Due.answered("every other one: 15, 30 and 31, the other 16", x, x.bundle(0, 0x15555555, 48), 17);
         });
@@ -392,6 +399,9 @@ public final class EdgesOfProofsTest {
         Edge.refused("34: (1: the set empty)", Edge::rich, 1, x -> x.bundled(0, 5, 0), x -> x.bundled(0, 0, 0));
         Edge.refused("34: (1: one of it is not below n)", Edge::rich, 1, x -> x.bundled(1 << 5, 5, 0),
             x -> x.bundled(1 | 1 << 5, 5, 0), x -> x.bundled(1, 0, 0), x -> x.bundled(2, 1, 0), x -> x.bundled(1 << 29, 29, 0));
+        Edge.refused("34: a set is of things 0 to 29: bit 30 is of none below n, however many there are", Edge::full, 1,
+            x -> x.bundled(1 << 30, 30, 0), x -> x.bundled(1 << 30, 31, 0), x -> x.bundled(1 << 30, MOST, 0),
+            x -> x.bundled(1 << 30 | 1, 31, 0), x -> x.bundled(MOST, 48, 0), x -> x.bundled(MOST, MOST, 0));
         Edge.refused("34: (1: a MARK)", Edge::rich, 1, x -> x.bundled(1, 5, 101), x -> x.bundled(1, 5, -1),
             x -> x.bundled(1, 5, MOST));
         Edge.of("34: just so many; one too few; one too many", () -> {

@@ -741,6 +741,9 @@ public final class EdgesOfWatchingTest {
         Edge.refused("59: (1: the set empty)", Edge::rich, 1, x -> x.saves(0, 5), x -> x.saves(0, 0));
         Edge.refused("59: (1: one of it not below n)", Edge::rich, 1, x -> x.saves(1 << 5, 5), x -> x.saves(1 | 1 << 5, 5),
             x -> x.saves(1, 0), x -> x.saves(1, -1), x -> x.saves(1, LEAST), x -> x.saves(1 << 29, 29));
+        Edge.refused("59: of things 0 to 29: bit 30 is of none below n, however many there are", Edge::rich, 1,
+            x -> x.saves(1 << 30, 30), x -> x.saves(1 << 30, 31), x -> x.saves(1 << 30, MOST), x -> x.saves(1 << 30 | 1, 31),
+            x -> x.saves(MOST, 31), x -> x.saves(MOST, MOST));
         Edge.gives("59: a set of one: none", Edge::fresh, 0, x -> x.saves(1, 1), x -> x.saves(1, 5), x -> x.saves(1 << 4, 5),
             x -> x.saves(1 << 29, 30), x -> x.saves(1 << 29, MOST));
         Edge.gives("59: both of two: one each, less none", Edge::fresh, 2, x -> x.saves(3, 2));
@@ -748,6 +751,7 @@ public final class EdgesOfWatchingTest {
         Edge.of("59: things 0 to 29, all of 30", () -> {
             ProvenRecord x = Edge.fresh();
             Due.answered("all", x, x.saves((1 << 30) - 1, 30), stepsOfAll(30));
+            Due.answered("all but the last of 31, which has 4", x, x.saves((1 << 30) - 1, 31), stepsOfAll(31) - 4 - 1);
         });
         Edge.gives("59: n as great as may be: 31 and 31, less 30", Edge::fresh, 32, x -> x.saves(3, MOST));
     }

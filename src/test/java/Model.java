@@ -147,7 +147,7 @@ final class Model {
     }
 
     private static boolean touches(int set, long from, long n) {
-        for (int b = 0; b < 31; b++) {
+        for (int b = 0; b < 30; b++) {
             if ((set >> b & 1) == 1 && b >= from && b < from + n) {
                 return true;
             }
@@ -301,7 +301,7 @@ final class Model {
 
     private static List<Integer> members(int set) {
         List<Integer> all = new ArrayList<>();
-        for (int b = 0; b < 31; b++) {
+        for (int b = 0; b < 30; b++) {
             if ((set >> b & 1) == 1) {
                 all.add(b);
             }
@@ -311,6 +311,16 @@ final class Model {
 
     private static boolean wrongSet(int set) {
         return set <= 0;
+    }
+
+    /** A set is of things 0 to 29: a bit above these is none of any things. */
+    private static boolean allBelow(int set, int n) {
+        for (int i : members(set)) {
+            if (i >= n) {
+                return false;
+            }
+        }
+        return set >> 30 == 0;
     }
 
     // ---- texts
@@ -765,7 +775,7 @@ final class Model {
         if (!record(record)) {
             return no(2);
         }
-        if (n > entries(record) || members(set).get(members(set).size() - 1) >= n) {
+        if (n > entries(record) || !allBelow(set, n)) {
             return no(5);
         }
         return put(marks(s, record, bundleTrees(set, 0, n)));
@@ -812,7 +822,7 @@ final class Model {
     }
 
     int bundled(int set, int n, int head) {
-        if (n < 0 || wrongSet(set) || members(set).get(members(set).size() - 1) >= n || !markLike(head)) {
+        if (n < 0 || wrongSet(set) || !allBelow(set, n) || !markLike(head)) {
             return no(1);
         }
         int own = members(set).size();
@@ -1190,7 +1200,7 @@ final class Model {
     }
 
     int saves(int set, int n) {
-        if (wrongSet(set) || members(set).get(members(set).size() - 1) >= n) {
+        if (wrongSet(set) || !allBelow(set, n)) {
             return no(1);
         }
         int all = 0;

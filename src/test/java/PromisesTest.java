@@ -845,8 +845,9 @@ public final class PromisesTest {
         Due.answered("29 of 48", y, y.bundle(0, 1 << 29, 48), 6);
         Due.answered("every other one", y, y.bundle(0, 0x15555555, 48), 15 + 2);
         Due.refused("30 of 30", y, y.bundle(0, 1 << 30 | 1, 30), 5);
-        Due.answered("30 of 31", y, y.bundle(0, 1 << 30, 31), 4);
-        Due.answered("0 to 30 of 31", y, y.bundle(0, MOST, 31), 0);
+        Due.refused("30 is no ENTRY of a set, not even of 31", y, y.bundle(0, 1 << 30, 31), 5);
+        Due.refused("0 to 30 of 31", y, y.bundle(0, MOST, 31), 5);
+        Due.answered("0 to 29 of 31", y, y.bundle(0, (1 << 30) - 1, 31), 1);
     }
 
     // 30
@@ -973,7 +974,8 @@ public final class PromisesTest {
         Due.refused("not below n", x, x.bundled(33, 5, 0), 1);
         Due.refused("30 is not below n", x, x.bundled(1 << 30, 30, 0), 1);
         Due.refused("30 is not below n", x, x.bundled(1 << 30 | 1, 1, 0), 1);
-        Due.answered("too few for 30 of 31", x, x.bundled(1 << 30, 31, 0), 1);
+        Due.refused("30 is no thing of a set, not even of 31", x, x.bundled(1 << 30, 31, 0), 1);
+        Due.answered("too few for 29 of 31", x, x.bundled(1 << 29, 31, 0), 1);
         Due.refused("no MARK", x, x.bundled(1, 1, 101), 1);
         Due.refused("no MARK", x, x.bundled(1, 1, -1), 1);
     }
@@ -1530,7 +1532,9 @@ public final class PromisesTest {
         Due.refused("not below n", x, x.saves(1, 0), 1);
         Due.refused("not below n", x, x.saves(1, LEAST), 1);
         Due.refused("30 is not below n", x, x.saves(1 << 30, 30), 1);
-        Due.answered("0 and 30 of 31: 5 and 4, less 7", x, x.saves(1 << 30 | 1, 31), 2);
+        Due.refused("30 is no thing of a set, not even of 31", x, x.saves(1 << 30, 31), 1);
+        Due.refused("0 and 30 of 31", x, x.saves(1 << 30 | 1, 31), 1);
+        Due.answered("0 and 29 of 31: 5 and 5, less 8", x, x.saves(1 << 29 | 1, 31), 2);
     }
 
     // 60

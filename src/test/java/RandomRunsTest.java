@@ -459,7 +459,10 @@ public final class RandomRunsTest {
             return;
         }
         int n = 1 + random.nextInt(all);
-        int set = random.nextInt() & (int) ((1L << Math.min(31, n)) - 1) & (random.nextBoolean() ? random.nextInt() : -1);
+        int set = random.nextInt() & (1 << Math.min(30, n)) - 1 & (random.nextBoolean() ? random.nextInt() : -1);
+        if (random.nextInt(16) == 0) {
+            set |= 1 << 30;
+        }
         int head = call("head", 0, n);
         int others = call("bundle", 0, set, n);
         call("saves", set, n);
